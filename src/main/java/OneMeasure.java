@@ -410,23 +410,27 @@ public final class OneMeasure {
             amount = 0;
             for (int first = 0; first < MAX_UNITS; first++) {
                 row[0] = first;
-                walk(tables, 1, START, 1 << first);
+                walk(this, tables, 1, START, 1 << first);
             }
             known = true;
         }
 
-        /** Rows of one length are met from the lowest units on, so of equals the first one stays. */
-        private void walk(Tables tables, int depth, long x, int used) {
+        /**
+         * Rows of one length are met from the lowest units on, so of equals the first one stays. It is
+         * static because LANGUAGE.md wants recursion so.
+         */
+        private static void walk(Ways ways, Tables tables, int depth, long x, int used) {
             if (depth < 1 || depth > LONGEST) return;
-            int last = row[depth - 1];
-            if (tables.has(last, row[0])) close(tables.turned(last, row[0], x), depth);
+            int first = ways.row[0];
+            int last = ways.row[depth - 1];
+            if (tables.has(last, first)) ways.close(tables.turned(last, first, x), depth);
             if (depth == LONGEST) return;
             for (int next = 0; next < MAX_UNITS; next++) {
                 if ((used >> next & 1) != 0 || !tables.has(last, next)) continue;
                 long there = tables.turned(last, next, x);
                 if (there > MOST) continue;
-                row[depth] = next;
-                walk(tables, depth + 1, there, used | 1 << next);
+                ways.row[depth] = next;
+                walk(ways, tables, depth + 1, there, used | 1 << next);
             }
         }
 
@@ -990,20 +994,20 @@ public final class OneMeasure {
         void seek(int w, int k) {
             least = Long.MAX_VALUE;
             Arrays.fill(sets, 0);
-            choose(0, w - 1, k);
+            choose(this, 0, w - 1, k);
         }
 
         /** Plans are met from the least sets on, so of equals the first one stays. */
-        private void choose(int week, int visitedWeeks, int k) {
+        private static void choose(Tours tours, int week, int visitedWeeks, int k) {
             if (week >= visitedWeeks || week >= LONGEST - 1) {
-                weigh();
+                tours.weigh();
                 return;
             }
             for (int set = 0; set <= ALL_DISTRICTS; set++) {
                 // a visit that saves nothing is in no least plan
-                if ((set & ~worthwhile) != 0 || Integer.bitCount(set) > k) continue;
-                sets[week] = set;
-                choose(week + 1, visitedWeeks, k);
+                if ((set & ~tours.worthwhile) != 0 || Integer.bitCount(set) > k) continue;
+                tours.sets[week] = set;
+                choose(tours, week + 1, visitedWeeks, k);
             }
         }
 

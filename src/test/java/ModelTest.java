@@ -1,5 +1,7 @@
+import java.util.ArrayDeque;
 import java.util.ArrayList;
 import java.util.Arrays;
+import java.util.Deque;
 import java.util.List;
 
 /**
@@ -14,7 +16,10 @@ public final class ModelTest {
         "allowed", "plan", "weeks", "rodTold", "cheated", "rounds", "people", "seasons", "uses", "keep", "back",
         "count"};
 
+    private static final int WRITE = 9, CLEAR = 10, FAULT = 11, FORCE = 12;
+
     private static long seed = 20261118L;
+    private static int sorts = 2;
 
     private static int draw(int bound) {
         seed = seed * 6364136223846793005L + 1442695040888963407L;
@@ -44,10 +49,14 @@ public final class ModelTest {
         OneMeasure real = new OneMeasure();
         Model model = new Model();
         StringBuilder told = new StringBuilder();
-        int bias = run % 6;
+        Deque<long[]> waiting = new ArrayDeque<>();
+        // in some runs all units are of one sort, so that tables and trials are seldom refused
+        sorts = run % 4 == 0 ? 0 : run % 4 == 1 ? 1 : 2;
         for (int i = 0; i < CALLS; i++) {
-            int call = i < 20 ? first(bias, i) : choose(bias);
-            long[] a = call == 9 ? letters(model) : arguments(call, model);
+            if (waiting.isEmpty()) drawCalls(i, run % 6, model, waiting);
+            long[] next = waiting.remove();
+            int call = (int) next[0];
+            long[] a = Arrays.copyOfRange(next, 1, next.length);
             long got = ask(real, call, a);
             long want = model.answer(NAMES[call], a);
             told.append(NAMES[call]).append(Arrays.toString(a)).append(" -> ").append(got).append('\n');
@@ -59,38 +68,54 @@ public final class ModelTest {
         return true;
     }
 
-    private static int first(int bias, int i) {
-        return i < 6 ? 0 : choose(bias);
+    private static void drawCalls(int i, int bias, Model model, Deque<long[]> waiting) {
+        int call = i < 6 ? 0 : choose(bias);
+        if (call == WRITE) {
+            drawText(waiting);
+            return;
+        }
+        long[] a = arguments(call, model);
+        long[] next = new long[a.length + 1];
+        next[0] = call;
+        System.arraycopy(a, 0, next, 1, a.length);
+        waiting.add(next);
     }
 
     private static int choose(int bias) {
-        int[][] often = {{1, 1, 1, 2, 3, 4}, {7, 7, 8, 8, 5, 6}, {9, 9, 9, 9, 12, 10, 11, 13, 14, 15, 16},
-            {9, 9, 9, 9, 12, 10, 17, 18, 18, 19, 19}, {20, 20, 22, 23, 24, 25, 26, 26, 21, 30, 31, 9, 9, 12},
+        int[][] often = {{1, 1, 1, 2, 3, 4}, {7, 7, 8, 8, 5, 6}, {WRITE, 12, 13, 13, 14, 14, 15, 15, 16, 16, 16, 11},
+            {WRITE, 17, 18, 18, 18, 18, 19, 19, 19, 19}, {20, 20, 22, 22, 23, 24, 25, 26, 26, 21, 30, 31, WRITE},
             {27, 28, 29, 30, 31, 20, 23}};
         int[] row = often[bias];
         return draw(4) == 0 ? draw(33) : row[draw(row.length)];
     }
 
-    /** Mostly the next piece of an item that is sound, now and then a broken one. */
-    private static long[] letters(Model m) {
-        if (m.coming.isEmpty()) m.coming = item();
-        int n = Math.min(1 + draw(8), m.coming.length());
-        long v = 0;
-        for (int i = 0; i < n; i++) v = v << 8 | m.coming.charAt(i);
-        if (n < 8 && draw(9) == 0) v |= (long) draw(200) << (8 * n);
-        if (m.text.length() + n > 300) return new long[] {n, v};
-        m.coming = m.coming.substring(n);
-        return new long[] {draw(50) == 0 ? 9 * draw(2) : n, v};
+    /** Some items by pieces, mostly behind a clear text and then put in force; now and then with a broken byte. */
+    private static void drawText(Deque<long[]> waiting) {
+        StringBuilder text = new StringBuilder();
+        int items = 1 + draw(draw(10) == 0 ? 40 : 12);
+        for (int i = 0; i < items; i++) text.append(item());
+        if (draw(8) == 0) text.setCharAt(draw(text.length()), (char) draw(256));
+        if (draw(8) == 0) text.setLength(draw(text.length()));
+        if (draw(6) > 0) waiting.add(new long[] {CLEAR});
+        int n;
+        for (int at = 0; at < text.length(); at += n) {
+            n = Math.min(draw(3) == 0 ? 1 + draw(8) : 8, text.length() - at);
+            long v = draw(9) == 0 ? draw(200) : 0;
+            for (int i = 0; i < n; i++) v = v << 8 | text.charAt(at + i);
+            waiting.add(new long[] {WRITE, draw(400) == 0 ? 9 * draw(2) : n, v});
+        }
+        waiting.add(new long[] {FAULT});
+        if (draw(10) > 0) waiting.add(new long[] {FORCE});
     }
 
     private static String item() {
-        int day = draw(40);
-        int end = day + draw(20) - (draw(30) == 0 ? 20 : 0);
-        if (draw(10) == 0) end = 9999;
-        String days = Math.max(0, day) + "," + Math.max(0, end) + ";";
-        int d = draw(draw(8) == 0 ? 7 : 2);
-        int u = draw(draw(8) == 0 ? 17 : 3);
-        switch (draw(draw(20) == 0 ? 5 : 4)) {
+        int day = draw(30);
+        int end = draw(10) == 0 ? 9999 : day + draw(40);
+        if (draw(200) == 0) end = day - 1;
+        String days = day + "," + Math.max(0, end) + ";";
+        int d = draw(300) == 0 ? 6 : aDistrict();
+        int u = draw(300) == 0 ? 16 : aUnit();
+        switch (draw(200) == 0 ? 4 : draw(4)) {
             case 0: return "a" + u + "," + d + "," + days;
             case 1: return "b" + u + "," + d + "," + days;
             case 2: return "n" + draw(2) + "," + u + "," + d + "," + day + ";";
@@ -103,7 +128,7 @@ public final class ModelTest {
         int u = Math.max(1, m.units.size());
         switch (NAMES[call]) {
             case "unit": {
-                int sort = pick(0, 1);
+                int sort = sorts == 2 ? pick(0, 1) : sorts;
                 return row(sort, draw(3) == 0 ? pick(1, 1000000) : pick(1, 1200), sort == 0 ? draw(20) / 19 : pick(0, 100));
             }
             case "table": return row(pick(0, u - 1), pick(0, u - 1), ratio(), ratio(), pick(0, 3));
@@ -113,13 +138,13 @@ public final class ModelTest {
             case "earth": return row(pick(0, 4), pick(0, 1));
             case "trial": return near(pick(0, u - 1), pick(0, u - 1), m);
             case "span": return row(pick(0, u - 1), pick(0, u - 1), draw(2) == 0 ? pick(1, 1000000) : pick(1, 1200), pick(0, 3));
-            case "let": case "why": return row(draw(3) == 0 ? pick(0, 15) : draw(3), draw(3) == 0 ? pick(0, 5) : draw(2), day());
-            case "quarrels": return row(draw(3) == 0 ? pick(0, 15) : draw(3), draw(3) == 0 ? pick(0, 5) : draw(2), pick(0, 1));
-            case "means": return row(draw(3) == 0 ? pick(0, 9) : draw(2), draw(3) == 0 ? pick(0, 5) : draw(2), day(), pick(0, 1));
-            case "paper": return row(draw(3) == 0 ? pick(0, 5) : draw(2), draw(3) == 0 ? pick(0, 9) : draw(2), day(), pick(1, 1000000), pick(0, 2));
+            case "let": case "why": return row(aUnit(), aDistrict(), day());
+            case "quarrels": return row(aUnit(), aDistrict(), pick(0, 1));
+            case "means": return row(draw(8) == 0 ? pick(0, 9) : draw(2), aDistrict(), day(), pick(0, 1));
+            case "paper": return row(aDistrict(), draw(8) == 0 ? pick(0, 9) : draw(2), day(), pick(1, 1000000), pick(0, 2));
             case "owed": return row(pick(0, Math.max(0, m.papers.size() - 1)), draw(4) == 0 ? -1 : day(), pick(0, 1));
             case "gained": return row(pick(0, Math.max(0, m.papers.size() - 1)), day());
-            case "rod": return row(pick(0, u - 1), pick(0, 5), draw(2) == 0 ? pick(-200, 200) : pick(-30, 30), pick(0, 20), pick(0, 1000));
+            case "rod": return row(pick(0, u - 1), draw(2) == 0 ? pick(0, 5) : aDistrict(), draw(2) == 0 ? pick(-200, 200) : pick(-30, 30), pick(0, 20), pick(0, 1000));
             case "allowed": return row(draw(2) == 0 ? pick(0, 200) : pick(0, 30));
             case "plan": return row(draw(2) == 0 ? pick(0, 9) : 0, pick(0, 63));
             case "weeks": return row(draw(3) == 0 ? pick(1, 20) : pick(1, 3));
@@ -136,6 +161,14 @@ public final class ModelTest {
             case "count": return row(pick(0, 10));
             default: return new long[0];
         }
+    }
+
+    private static int aUnit() {
+        return draw(60) == 0 ? pick(0, 15) : draw(3);
+    }
+
+    private static int aDistrict() {
+        return draw(60) == 0 ? pick(0, 5) : draw(10) / 7;
     }
 
     private static int ratio() {
@@ -232,7 +265,6 @@ public final class ModelTest {
         final List<long[]> chains = new ArrayList<>();
         final List<long[]> trials = new ArrayList<>();
         String text = "";
-        String coming = "";
         List<String[]> items = new ArrayList<>();
         final List<long[]> papers = new ArrayList<>();
         State state = new State();
@@ -423,7 +455,6 @@ public final class ModelTest {
                 case "clear": {
                     int was = text.length();
                     text = "";
-                    coming = "";
                     return was;
                 }
                 case "fault": return fault();

@@ -177,6 +177,7 @@ public final class PromiseTest {
         due("BAD goes before NO", m.lost(0, 2, -1), bad);
         due("with itself", m.lost(0, 0, 5), no);
         due("cut to thousands", m.lost(0, 1, 1000), 1000);
+        due("of nothing", m.lost(0, 1, 0), 0);
         due("from the other", m.lost(1, 0, 1000), 1000);
         due("from the other", m.lost(1, 0, 10000), 0);
         m.table(0, 1, 10000, 1, 3);
@@ -246,6 +247,9 @@ public final class PromiseTest {
         m.table(2, 0, 1, 10000, 3);
         due("more on the way is none, less of it is one", m.best(-1), 10000000000L);
         due("from 0 it would be too much", m.best(0), 1);
+        m.table(1, 2, 100, 1, 3);
+        due("a million million on the way", m.best(-1), 100000000);
+        due("a million million on the way", m.best(0), 0);
     }
 
     private static void chain() {
@@ -333,7 +337,12 @@ public final class PromiseTest {
         due("greatest", m.span(0, 1, 100, 1), 68);
         due("the other way about, least", m.span(1, 0, 100, 0), 148);
         due("the other way about, greatest", m.span(1, 0, 100, 1), 152);
-        due("trials of others do not count", m.span(0, 2, 100, 1), 1000000);
+        due("no trials of these two: all", m.span(0, 2, 100, 1), 1000000);
+        m.trial(1, 2, 1, 1, 0);
+        m.trial(2, 1, 1, 1, 0);
+        m.trial(2, 0, 1, 10, 0);
+        due("trials of others do not count", m.span(0, 1, 100, 0), 65);
+        due("trials of others do not count", m.span(0, 1, 100, 1), 68);
         due("not below 1", m.span(0, 1, 1, 0), 1);
         due("not below 1", m.span(0, 1, 1, 1), 2);
         due("up to 1000000", m.span(1, 0, 700000, 0), -4);
@@ -344,8 +353,9 @@ public final class PromiseTest {
         m.trial(0, 1, 1, 1, 0);
         due("quarrelling trials", m.span(0, 1, 100, 0), -4);
         due("quarrelling trials", m.span(0, 1, 100, 3), -4);
-        m.trial(0, 2, 1, 10000, 0);
-        due("too great for a size", m.span(0, 2, 1000000, 0), -4);
+        m = withUnits(2);
+        m.trial(0, 1, 1, 10000, 0);
+        due("too great for a size", m.span(0, 1, 1000000, 0), -4);
     }
 
     private static void spanParts() {
@@ -361,6 +371,10 @@ public final class PromiseTest {
         m.trial(0, 1, 2, 1, 20);
         due("15 to 35 by 2, 1", m.span(0, 1, 50, 2), 2);
         due("15 to 35 by 2, 1", m.span(0, 1, 50, 3), 1);
+        m = withUnits(2);
+        m.trial(0, 1, 10, 7, 20);
+        due("698 to 702 by 10, 7", m.span(0, 1, 1000, 2), 10);
+        due("698 to 702 by 10, 7", m.span(0, 1, 1000, 3), 7);
         m = withUnits(2);
         due("all sizes beside a size of 1: 10 is nearest to the middle", m.span(0, 1, 1, 2), 1);
         due("all sizes beside a size of 1: 10 is nearest to the middle", m.span(0, 1, 1, 3), 10);
@@ -468,6 +482,9 @@ public final class PromiseTest {
         for (int i = 0; i < 12; i++) combs.append("a0,0,").append(2 * i).append(",").append(2 * i).append(";");
         combs.append("b0,0,3,9999;");
         due("many pieces", decreed(combs.toString()).quarrels(0, 0, 0), 10);
+        StringBuilder pieces = new StringBuilder("b0,0,0,9999;");
+        for (int i = 0; i < 26; i++) pieces.append("a0,0,").append(3 * i).append(",").append(3 * i + i % 2).append(";");
+        due("very many pieces", decreed(pieces.toString()).quarrels(0, 0, 0), 39);
     }
 
     private static void means() {
@@ -485,6 +502,8 @@ public final class PromiseTest {
         due("though it is not let itself", m.means(4, 0, 7, 1), 2);
         due("the other is let", m.means(4, 0, 10, 1), -4);
         due("the edges", m.means(5, 5, 9999, 0), 1 << 15);
+        due("the last word", m.means(9, 5, 9999, 0), 0);
+        due("the last word", decreed("n9,0,0,0;").means(9, 0, 0, 1), 0);
         due("the same unit twice", decreed("n0,1,0,3;n0,1,0,4;").means(0, 0, 4, 1), 1);
         due("the latest is told first", decreed("n0,1,0,4;n0,2,0,3;b2,0,0,9;").means(0, 0, 4, 1), 1);
         due("one of two others is let", decreed("n0,1,0,4;n0,2,0,3;n0,3,0,2;b2,0,0,9;").means(0, 0, 4, 1), -4);
@@ -539,6 +558,10 @@ public final class PromiseTest {
         cut.unit(1, 7, 50);
         cut.paper(0, 0, 0, 285, 2);
         due("heaped, cut", cut.owed(0, 0, 0), 2);
+        OneMeasure lone = decreed("h0,1,0,9;n0,0,0,0;");
+        lone.unit(1, 1000, 50);
+        lone.paper(0, 0, 0, 1000, 2);
+        due("heaped by the very first item", lone.owed(0, 0, 0), 1500);
     }
 
     private static void gained() {
@@ -738,6 +761,8 @@ public final class PromiseTest {
         m.weeks(1);
         due("all are seized", m.rounds(4, 2, -1), 0);
         roundsByDecree();
+        roundsOfWorn();
+        roundsOfLong();
         roundsAtTheEnd();
     }
 
@@ -752,6 +777,35 @@ public final class PromiseTest {
         due("week 3", m.rounds(4, 1, 3), 0);
         m.weeks(1);
         due("from now", m.rounds(3, 1, 1), 4);
+    }
+
+    private static void roundsOfWorn() {
+        OneMeasure m = withUnits(1);
+        m.rod(0, 4, -10, 5, 10);
+        due("worn to -25 in week 2", m.rounds(4, 1, -1), 100 + 150 + 200);
+        due("week 1: -20 is allowed", m.rounds(4, 1, 1), 0);
+        due("week 2", m.rounds(4, 1, 2), 16);
+        m.weeks(1);
+        due("worn to -25 in the next but one", m.rounds(4, 1, -1), 150 + 200);
+        due("from now", m.rounds(4, 1, 1), 16);
+        m.weeks(1);
+        due("off by more behind this one", m.rounds(4, 1, 0), 16);
+        due("off by more behind this one", m.rounds(4, 1, -1), 200);
+    }
+
+    private static void roundsOfLong() {
+        OneMeasure m = withUnits(1);
+        m.rod(0, 0, 200, 0, 10);
+        m.rod(0, 1, 30, 20, 10);
+        due("what is won does not count", m.rounds(2, 2, -1), 0);
+        due("nor is a visit worth it", m.rounds(2, 2, 0), 0);
+        due("long, then short", m.rounds(4, 2, -1), 100);
+        due("seized when it is short enough", m.rounds(4, 2, 0), 0);
+        due("seized when it is short enough", m.rounds(4, 2, 2), 2);
+        m.allowed(5);
+        due("or just before, and no sooner than needed", m.rounds(4, 2, 0), 0);
+        due("or just before, and no sooner than needed", m.rounds(4, 2, 1), 2);
+        due("or just before", m.rounds(4, 2, -1), 0);
     }
 
     private static void roundsAtTheEnd() {
@@ -772,6 +826,7 @@ public final class PromiseTest {
         due("the most", m.people(5, 50000, 50000, 500, 500), 0);
         due("the most", m.people(0, 100000, 0, 500, 500), 0);
         due("old", m.uses(5, 0), 50000);
+        due("nobody", m.people(4, 0, 0, 0, 0), 0);
         due("told anew", m.people(5, 1, 2, 0, 0), 0);
         due("old", m.uses(5, 0), 1);
         due("new", m.uses(5, 1), 2);
