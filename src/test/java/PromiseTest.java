@@ -79,6 +79,7 @@ public final class PromiseTest {
         uses();
         keepAndBack();
         count();
+        fullRows();
         System.out.println(wrong == 0 ? "all promises are kept" : wrong + " answers are not as due");
         if (wrong != 0) System.exit(1);
     }
@@ -732,6 +733,11 @@ public final class PromiseTest {
         for (int i = 0; i < 4; i++) m.weeks(20);
         m.weeks(19);
         due("very many grains", m.cheated(3, 0), 47600000000L);
+        OneMeasure one = withUnits(1);
+        one.rod(0, 0, -1, 0, 1);
+        one.weeks(1);
+        due("a single grain", one.cheated(0, 0), 1);
+        due("a single grain", one.cheated(0, 1), 0);
         due("district -1", m.cheated(-1, 0), -1);
         due("district 6", m.cheated(6, 0), -1);
         due("what -1", m.cheated(0, -1), -1);
@@ -958,5 +964,35 @@ public final class PromiseTest {
         for (int i = 0; i < due.length; i++) due("count(" + i + ")", m.count(i), due[i]);
         due("count(-1)", m.count(-1), -1);
         due("count(11)", m.count(11), -1);
+    }
+
+    /** With every row full, calls that go through all of one still come back. */
+    private static void fullRows() {
+        OneMeasure m = decreed("n0,15,0,0;a0,0,0,0;b0,0,0,0;" + "h0,1,0,0;".repeat(29));
+        for (int i = 0; i < 16; i++) m.unit(0, 1000, 0);
+        for (int i = 0; i < 12; i++) m.chain(0, 10 + i, 1);
+        for (int i = 0; i < 30; i++) m.trial(0, 1, 1, 1, 30 - i);
+        for (int i = 0; i < 10; i++) m.paper(0, 0, 0, 1000, 2);
+        for (int i = 0; i < 12; i++) m.rod(15, 0, -30, 0, 1);
+        due("32 items", m.count(5), 32);
+        due("means", m.means(0, 0, 0, 0), 1 << 15);
+        due("sure", m.means(0, 0, 0, 1), 15);
+        due("quarrels", m.quarrels(0, 0, 0), 1);
+        due("why", m.why(0, 0, 0), 2);
+        due("doubt", m.earth(4, 0), 11);
+        due("girth", m.earth(0, 0), 186 * 40000 / 12);
+        due("span", m.span(0, 1, 100, 0), 99);
+        due("owed", m.owed(9, 0, 1), 1000);
+        due("rounds", m.rounds(2, 1, -1), 360);
+        m.plan(0, 1);
+        due("weeks", m.weeks(1), 1);
+        due("cheated", m.cheated(0, 0), 360);
+        due("seized", m.count(9), 12);
+        for (int from = 0; from < 16; from++) {
+            for (int to = 0; to < 16; to++) if (from != to) m.table(from, to, 1, 1, 3);
+        }
+        due("tables", m.count(1), 240);
+        due("best", m.best(-1), 1000000);
+        due("best", m.best(-2), 2);
     }
 }
