@@ -955,7 +955,6 @@ public final class OneMeasure {
         long least = 0;
         private final long[] loss = new long[DISTRICTS * PATTERNS];
         private final int[] sets = new int[LONGEST];
-        private int worthwhile = 0;
 
         /** What each district loses in w weeks by each pattern of weeks with visits. */
         void price(Rods rods, Units units, Decrees decrees, int tolerance, int w) {
@@ -967,10 +966,6 @@ public final class OneMeasure {
                     int at = rods.district[i] * PATTERNS + pattern;
                     loss[at] += lossOf(i, rods, units, pattern & forfeit, w);
                 }
-            }
-            worthwhile = 0;
-            for (int d = 0; d < DISTRICTS; d++) {
-                if (loss[d * PATTERNS + PATTERNS - 1] < loss[d * PATTERNS]) worthwhile |= 1 << d;
             }
         }
 
@@ -1003,21 +998,37 @@ public final class OneMeasure {
                 tours.weigh();
                 return;
             }
-            for (int set = 0; set <= ALL_DISTRICTS; set++) {
-                // a visit that saves nothing is in no least plan
-                if ((set & ~tours.worthwhile) != 0 || Integer.bitCount(set) > k) continue;
+            int worthwhile = tours.worthwhileIn(week);
+            for (int set = 0; set <= worthwhile; set++) {
+                if ((set & ~worthwhile) != 0 || Integer.bitCount(set) > k) continue;
                 tours.sets[week] = set;
                 choose(tours, week + 1, visitedWeeks, k);
             }
+            tours.sets[week] = 0;
+        }
+
+        /**
+         * The districts where a visit saves something behind those before it. One that saves nothing
+         * by itself saves nothing with later ones either, so it is in no least plan.
+         */
+        private int worthwhileIn(int week) {
+            int bits = 0;
+            for (int d = 0; d < DISTRICTS; d++) {
+                int before = patternOf(d);
+                if (loss[d * PATTERNS + (before | 1 << week)] < loss[d * PATTERNS + before]) bits |= 1 << d;
+            }
+            return bits;
+        }
+
+        private int patternOf(int district) {
+            int pattern = 0;
+            for (int j = 0; j < LONGEST - 1; j++) pattern |= (sets[j] >> district & 1) << j;
+            return pattern;
         }
 
         private void weigh() {
             long sum = 0;
-            for (int d = 0; d < DISTRICTS; d++) {
-                int pattern = 0;
-                for (int j = 0; j < LONGEST - 1; j++) pattern |= (sets[j] >> d & 1) << j;
-                sum += loss[d * PATTERNS + pattern];
-            }
+            for (int d = 0; d < DISTRICTS; d++) sum += loss[d * PATTERNS + patternOf(d)];
             if (sum >= least) return;
             least = sum;
             for (int j = 0; j < LONGEST; j++) bestSets[j] = sets[j];

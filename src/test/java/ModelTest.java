@@ -9,7 +9,7 @@ import java.util.List;
  * document's words as they stand: days one by one, plans all tried, sizes all counted.
  */
 public final class ModelTest {
-    private static final int RUNS = 60;
+    private static final int RUNS = 36;
     private static final int CALLS = 512;
     private static final String[] NAMES = {"unit", "table", "turn", "lost", "best", "chain", "earth", "trial", "span",
         "write", "clear", "fault", "force", "let", "why", "quarrels", "means", "paper", "owed", "gained", "rod",
