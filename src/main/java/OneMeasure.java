@@ -104,11 +104,12 @@ public final class OneMeasure {
     }
 
     public long best(int i) {
-        if (!within(i, -2, Ways.LONGEST - 1)) return BAD;
+        // NONE stands ahead of BAD in promise 6: without a way round nothing else is looked at
         ways.find(tables);
         if (ways.length == 0) return NONE;
         if (i == -1) return ways.amount;
         if (i == -2) return ways.length;
+        if (i < 0) return BAD;
         return i < ways.length ? ways.bestRow[i] : NONE;
     }
 

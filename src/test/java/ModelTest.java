@@ -133,7 +133,7 @@ public final class ModelTest {
             }
             case "table": return row(pick(0, u - 1), pick(0, u - 1), ratio(), ratio(), pick(0, 3));
             case "turn": case "lost": return row(pick(0, u - 1), pick(0, u - 1), pick(0, 1000000000));
-            case "best": return row(pick(-2, 3));
+            case "best": return row(draw(8) == 0 ? wild() : pick(-2, 3));
             case "chain": return row(pick(0, 1), pick(1, draw(2) == 0 ? 1000000 : 30), pick(1, draw(2) == 0 ? 1000 : 9));
             case "earth": return row(pick(0, 4), pick(0, 1));
             case "trial": return near(pick(0, u - 1), pick(0, u - 1), m);
@@ -161,6 +161,10 @@ public final class ModelTest {
             case "count": return row(pick(0, 10));
             default: return new long[0];
         }
+    }
+
+    private static int wild() {
+        return (draw(2) == 0 ? 1 : -1) * draw(Integer.MAX_VALUE);
     }
 
     private static int aUnit() {
@@ -338,7 +342,6 @@ public final class ModelTest {
         }
 
         private long best(long i) {
-            if (!in(i, -2, 3)) return -1;
             long most = -1;
             int[] row = {};
             for (int n = 2; n <= 4; n++) {
@@ -358,6 +361,7 @@ public final class ModelTest {
             if (row.length == 0) return -4;
             if (i == -1) return most;
             if (i == -2) return row.length;
+            if (i < -2) return -1;
             return i < row.length ? row[(int) i] : -4;
         }
 
