@@ -104,12 +104,11 @@ public final class OneMeasure {
     }
 
     public long best(int i) {
-        // NONE stands ahead of BAD in promise 6: without a way round nothing else is looked at
+        if (i < -2) return BAD;
         ways.find(tables);
         if (ways.length == 0) return NONE;
         if (i == -1) return ways.amount;
         if (i == -2) return ways.length;
-        if (i < 0) return BAD;
         return i < ways.length ? ways.bestRow[i] : NONE;
     }
 

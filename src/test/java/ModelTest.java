@@ -342,6 +342,7 @@ public final class ModelTest {
         }
 
         private long best(long i) {
+            if (i < -2) return -1;
             long most = -1;
             int[] row = {};
             for (int n = 2; n <= 4; n++) {
@@ -361,7 +362,6 @@ public final class ModelTest {
             if (row.length == 0) return -4;
             if (i == -1) return most;
             if (i == -2) return row.length;
-            if (i < -2) return -1;
             return i < row.length ? row[(int) i] : -4;
         }
 

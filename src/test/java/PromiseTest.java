@@ -191,24 +191,24 @@ public final class PromiseTest {
         due("no way round", m.best(-1), -4);
         due("no way round", m.best(-2), -4);
         due("no way round", m.best(0), -4);
-        noUnitOfTheBest("no way round", m, 0, -4);
+        noUnitOfTheBest("no way round", m, 0);
         m.table(0, 1, 1, 1, 3);
-        noUnitOfTheBest("there alone", m, 0, -4);
+        noUnitOfTheBest("there alone", m, 0);
         due("there alone", m.best(-1), -4);
         m.table(1, 0, 1, 1, 3);
         due("there and back", m.best(-1), 1000000);
-        noUnitOfTheBest("there and back", m, 2, -1);
+        noUnitOfTheBest("there and back", m, 2);
         m.table(1, 2, 2, 1, 3);
         m.table(2, 0, 1, 1, 3);
         due("three", m.best(-1), 2000000);
         due("three", m.best(-2), 3);
-        noUnitOfTheBest("three", m, 3, -1);
+        noUnitOfTheBest("three", m, 3);
         m.table(2, 3, 2, 1, 3);
         m.table(3, 0, 1, 1, 3);
         due("four", m.best(-1), 4000000);
         due("four", m.best(-2), 4);
         for (int i = 0; i < 4; i++) due("four, unit " + i, m.best(i), i);
-        noUnitOfTheBest("four", m, 4, -1);
+        noUnitOfTheBest("four", m, 4);
         m.table(3, 4, 10, 1, 3);
         m.table(4, 0, 1, 1, 3);
         due("five are none", m.best(-1), 4000000);
@@ -219,11 +219,11 @@ public final class PromiseTest {
     }
 
     /** From the first place beyond the row on there is no unit; below -2 the number is none that is told. */
-    private static void noUnitOfTheBest(String what, OneMeasure m, int length, int below) {
+    private static void noUnitOfTheBest(String what, OneMeasure m, int length) {
         int[] beyond = {length, length + 1, 4, 5, 16, 526148306, Integer.MAX_VALUE};
         for (int i : beyond) due(what + ", i " + i, m.best(i), -4);
-        int[] lower = {-3, -4, -526148306, Integer.MIN_VALUE};
-        for (int i : lower) due(what + ", i " + i, m.best(i), below);
+        int[] lower = {-3, -4, -265943265, Integer.MIN_VALUE};
+        for (int i : lower) due(what + ", i " + i, m.best(i), -1);
     }
 
     private static void bestOfEquals() {
